@@ -45,7 +45,7 @@ public final class TownFolk {
     private final Shelf[] shelves = new Shelf[SHELVES];
     private final Resident[] people = new Resident[MOST_PEOPLE];
     private final Gathering[] gatherings = new Gathering[MOST_MEETINGS];
-    private final Seats seats = new Seats();
+    private final Seats takenSeats = new Seats();
     private final Planner planner = new Planner();
     private final DutyCheck dutyCheck = new DutyCheck();
     private final int[] told = new int[MOST_PLACES];
@@ -336,7 +336,7 @@ public final class TownFolk {
         if (!begun) {
             return refuse(WRONG);
         }
-        seats.release(people[who].plan, now);
+        takenSeats.release(people[who].plan, now);
         people[who].leave(now);
         return countHere();
     }
@@ -374,7 +374,7 @@ public final class TownFolk {
     }
 
     public int seated(int place, int t) {
-        return town.has(place) && isTick(t) && begun ? seats.taken(place, t) : NONE;
+        return town.has(place) && isTick(t) && begun ? takenSeats.taken(place, t) : NONE;
     }
 
     public int knows(int who, int fact) {
@@ -499,7 +499,7 @@ public final class TownFolk {
     private int beginDay() {
         now = 0;
         lockedPlaces = 0;
-        seats.clear();
+        takenSeats.clear();
         for (int m = 0; m < gatheringCount; m++) {
             gatherings[m].beginDay();
         }
@@ -565,7 +565,7 @@ public final class TownFolk {
     private int replan(int who) {
         Resident one = people[who];
         plansMade++;
-        seats.release(one.plan, now);
+        takenSeats.release(one.plan, now);
         planner.weigh(one);
         for (int m = 0; m < gatheringCount; m++) {
             if (gatherings[m].isOf(who)) {
@@ -575,9 +575,9 @@ public final class TownFolk {
         }
         int free = one.freeFrom(now);
         int standing = one.standsAt(free);
-        planner.search(one, town, seats, lockedPlaces, free);
+        planner.search(one, town, takenSeats, lockedPlaces, free);
         one.planCost = planner.write(one, town, now, free, standing);
-        seats.take(one.plan, now);
+        takenSeats.take(one.plan, now);
         return one.planCost;
     }
 

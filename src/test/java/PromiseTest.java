@@ -319,6 +319,8 @@ public final class PromiseTest {
         dueCells(x, 0, 1, 1, 2, 3, 4);
         due("copy down", x.copy(0, 0, 2, 0, 3), 1);
         dueCells(x, 0, 2, 3, 4, 3, 4);
+        due("copy all", x.copy(1, 0, 0, 2, 3), 1);
+        dueCells(x, 0, 2, 3, 10, 4, 5);
         dueRefusals(x, 2, 6, 3, 2, beyond.length, 0, 0);
     }
 
@@ -382,6 +384,10 @@ public final class PromiseTest {
         due("holds", x.holds(0), 0);
         x.row(0, 0, 3);
         due("holds", x.holds(0), 100);
+        due("set", x.set(0, 2, 5), 1);
+        x.show(0, 1);
+        due("holds", x.holds(0), 1);
+        due("no element is left", x.element(0, 2), 0);
         for (int s : new int[] {-1, 8, LOWEST, HIGHEST}) {
             due("holds", x.holds(s), -1);
         }
@@ -788,6 +794,14 @@ public final class PromiseTest {
         due("a way that begins now is not yet gone", x.where(0, 42), 212);
         due("bend", x.bend(0, 1, 42, 48), 6 * 3 + 300);
         dueWhere(x, 0, 42, 48, 1);
+        TownFolk z = line(2, 5, 0);
+        restful(z);
+        z.begin();
+        z.bend(0, 1, 5, 6);
+        z.tick(4);
+        due("bend in a way's last tick", z.bend(0, 0, 10, 48), 3 + 15 + 38 * 3);
+        due("the way is gone to its end", z.where(0, 4), 201);
+        due("and then the way back", z.where(0, 5), 212);
         TownFolk y = line(2, 9, 0);
         y.begin();
         y.bend(0, 1, 9, 42);
@@ -1054,6 +1068,16 @@ public final class PromiseTest {
         x.happen(0);
         due("OUT sees", x.knows(0, 1), 0);
         due("OUT sees", x.knows(1, 1), 0);
+        TownFolk z = new TownFolk();
+        z.place(1, 0, 48);
+        z.place(1, 20, 48);
+        z.folk(1);
+        z.folk(0);
+        z.begin();
+        z.happen(1);
+        due("OUT sees", z.knows(0, 0), 0);
+        due("who is elsewhere does not", z.knows(1, 0), -1);
+        whoLeftTellsNothing();
         TownFolk y = new TownFolk();
         y.place(1, 0, 48);
         y.place(2, 0, 48);
@@ -1069,6 +1093,23 @@ public final class PromiseTest {
         due("knows", y.knows(2, 0), 1);
         y.tick(10);
         due("OUT tells nobody", y.knows(0, 0), -1);
+    }
+
+    private static void whoLeftTellsNothing() {
+        TownFolk x = line(2, 1, 0, 1);
+        restful(x);
+        x.begin();
+        x.happen(0);
+        x.bend(0, 1, 5, 10);
+        x.bend(1, 0, 5, 10);
+        x.tick(8);
+        due("where", x.where(0, 7), 1);
+        due("where", x.where(1, 7), 0);
+        due("who came when the other had left", x.knows(1, 0), -1);
+        x.bend(0, 0, 20, 21);
+        x.bend(1, 0, 20, 21);
+        x.tick(13);
+        due("told at last", x.knows(1, 0), 20);
     }
 
     private static void met() {
