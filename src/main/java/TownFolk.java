@@ -771,6 +771,7 @@ public final class TownFolk {
 
         void leave(int from) {
             left = true;
+            bent = false;
             for (int t = from; t < DAY; t++) {
                 plan[t] = NONE;
             }

@@ -615,7 +615,7 @@ public final class ModelTest {
             int shut = 0;
             for (Person f : folk) {
                 here += f.gone ? 0 : 1;
-                bent += f.bend != null ? 1 : 0;
+                bent += f.bend != null && !f.gone ? 1 : 0;
             }
             for (boolean l : locked) {
                 shut += l ? 1 : 0;

@@ -1209,6 +1209,26 @@ public final class PromiseTest {
         for (int what : new int[] {-1, 18, LOWEST, HIGHEST, -7, 10 + HIGHEST}) {
             due("status", x.status(what), -1);
         }
+        bentAndGone();
+    }
+
+    private static void bentAndGone() {
+        TownFolk x = line(2, 1, 0, 1, 0);
+        restful(x);
+        x.begin();
+        x.bend(0, 1, 5, 6);
+        x.bend(1, 0, 5, 6);
+        due("bent", x.status(8), 2);
+        x.gone(2);
+        due("one not bent is gone", x.status(8), 2);
+        x.gone(1);
+        due("one bent is gone", x.status(8), 1);
+        x.tick(47);
+        due("bent", x.status(8), 1);
+        x.gone(0);
+        due("all bent are gone", x.status(8), 0);
+        x.tick(1);
+        due("a new day", x.status(8), 0);
     }
 
     public static void main(String[] args) {
