@@ -1,0 +1,58 @@
+import java.util.LinkedHashSet;
+import java.util.Set;
+
+/** Which promise and which sentence of the document is tested just now, and what was not as due. */
+final class Report {
+    private static final int PROMISES = 30;
+    private static final int MOST_TOLD = 60;
+    private static final Set<String> SENTENCES = new LinkedHashSet<>();
+    private static final boolean[] NAMED = new boolean[PROMISES + 1];
+    private static int promise;
+    private static String words = "";
+    private static int answers;
+    private static int wrong;
+
+    private Report() {
+    }
+
+    /** All that follows stands for this sentence, until the next one is named. */
+    static void sentence(int number, String sentence) {
+        promise = number;
+        words = sentence;
+        NAMED[number] = true;
+        SENTENCES.add(number + ": " + sentence);
+    }
+
+    static void due(String call, long got, long want) {
+        answers++;
+        if (got != want) {
+            fault(call + " answered " + got + ", due is " + want);
+        }
+    }
+
+    static void fault(String what) {
+        wrong++;
+        if (wrong <= MOST_TOLD) {
+            System.out.println("promise " + promise + ", \"" + words + "\": " + what);
+        }
+    }
+
+    /** Ends the test with code 1 if an answer was not as due, or a promise has no sentence tested. */
+    static void end(String test) {
+        for (int number = 1; number <= PROMISES; number++) {
+            if (!NAMED[number]) {
+                wrong++;
+                System.out.println("promise " + number + " has no sentence that is tested");
+            }
+        }
+        System.out.println(test + ": " + SENTENCES.size() + " sentences, " + answers + " answers, "
+            + wrong + " of them not as due");
+        if (wrong != 0) {
+            System.exit(1);
+        }
+    }
+
+    static Set<String> sentences() {
+        return SENTENCES;
+    }
+}
