@@ -137,7 +137,7 @@ final class AnswerEdges {
     // ---- promise 27
 
     private static void knowsNobody() {
-        Report.sentence(27, "The TICK of its DAY at which one of the FOLK learned a FACT; NONE. (GONE ones, too.)");
+        Report.sentence(27, "else the TICK in which it was told); NONE. (GONE ones, too.)");
         Run x = Run.line(2, 1, 0, 1).due(-1, "knows", 0, 0).does("begin").due(-1, "knows", 0, 0).does("happen", 0);
         for (int none : new int[] {-1, 2, 20, LOWEST, HIGHEST}) {
             x.due(-1, "knows", none, 0);
@@ -216,7 +216,8 @@ final class AnswerEdges {
     private static void goneLearnNoMore() {
         Report.sentence(27, "(Who is GONE learns no more.)");
         Run x = Run.line(2, 1, 0, 1, 1).restful().does("begin").does("happen", 0).does("gone", 2);
-        x.does("bend", 0, 1, 5, 6).does("tick", 5).due(1, "where", 0, 5).does("gone", 1).does("tick", 43).due(-1, "knows", 1, 0).due(-1, "knows", 2, 0);
+        x.does("bend", 0, 1, 5, 6).does("tick", 5).due(1, "where", 0, 5).does("gone", 1).does("tick", 43);
+        x.due(-1, "knows", 1, 0).due(-1, "knows", 2, 0);
         x.does("happen", 1).due(-1, "knows", 1, 1);
         // who was GONE a tick later had been told
         Run y = Run.line(2, 1, 0, 1).restful().does("begin").does("happen", 0).does("bend", 0, 1, 5, 6).does("tick", 6);

@@ -86,12 +86,13 @@ final class DayEdges {
             for (int n : new int[] {1, 2, 47, 48}) {
                 x.refused(-7, "tick", n);
             }
-            x.due(20, "status", 6).due(47, "status", 5).due(4, "again", 0).due(0, "happen", 0).due(20 * 48 + 47, "knows", 0, 0);
+            x.due(20, "status", 6).due(47, "status", 5).due(4, "again", 0);
+            x.due(0, "happen", 0).due(20 * 48 + 47, "knows", 0, 0);
         }
     }
 
     private static void tickRefusedInOrder() {
-        Report.sentence(18, "-6 n not 1 to 48, ahead of BEGIN; -7 (the first that fits, in this order)");
+        Report.sentence(18, "-6 n not 1 to 48, ahead of BEGIN; -7", Report.ORDER);
         Run x = Run.places(1, 1).folk(0).does("begin");
         for (int day = 0; day < 20; day++) {
             x.does("tick", 48);
@@ -200,7 +201,7 @@ final class DayEdges {
     }
 
     private static void lockOfTheLastTick() {
-        Report.sentence(20, "IN it in NOW or a later TICK (the DAY's last one)");
+        Report.sentence(20, "IN it in NOW or a later TICK", "the DAY's last one");
         Run x = Run.places(1, 9).folk(0, 0).does("begin").does("tick", 47).does("gone", 1);
         x.due(1, "lock", 0, true).due(20, "cost", 0).where(0, 0, 47, 0).due(100, "where", 0, 47);
         x.does("tick", 1).due(192, "cost", 0).due(0, "status", 9).where(0, 0, 48, 0);
@@ -266,7 +267,7 @@ final class DayEdges {
     }
 
     private static void goneForEver() {
-        Report.sentence(22, "One of the FOLK is GONE: how many there are still. (for ever)");
+        Report.sentence(22, "Who is GONE is nowhere from NOW on, for ever", "day by day");
         Run x = Run.line(2, 1, 0, 0, 1).does("meeting", 3, 1, 10, 12, 50).restful().does("begin").does("bend", 0, 1, 0, 48);
         x.does("gone", 0).status(2, 1, 3, 2, 1, 0, 0, 0, 0, 0, 4);
         for (int day = 0; day < 3; day++) {
@@ -280,7 +281,7 @@ final class DayEdges {
     }
 
     private static void goneAtTheDaysEnd() {
-        Report.sentence(22, "Who is GONE is nowhere from NOW on (the DAY's last TICK, and the next DAY's first)");
+        Report.sentence(22, "Who is GONE is nowhere from NOW on", "the DAY's last TICK, and the next one's first");
         Run x = Run.places(1, 9).folk(0, 0).does("begin").does("tick", 47).does("gone", 0);
         x.where(0, 0, 47, 0).due(-1, "where", 0, 47).seated(0, 0, 47, 2).due(1, "seated", 0, 47);
         x.does("tick", 1).where(0, 0, 48, -1).seated(0, 0, 48, 1).does("gone", 1).where(1, 0, 48, -1).seated(0, 0, 48, 0);
@@ -302,7 +303,7 @@ final class DayEdges {
     // ---- promise 23
 
     private static void happenRefusedInOrder() {
-        Report.sentence(23, "A FACT at a PLACE: its number. -1; -6 ahead of BEGIN; -7. (the first that fits, in this order)");
+        Report.sentence(23, "A FACT at a PLACE: its number. -1; -6 ahead of BEGIN; -7.", Report.ORDER);
         Run x = Run.line(2, 1, 0);
         for (int none : new int[] {-1, 2, 12, LOWEST, HIGHEST}) {
             x.refused(-1, "happen", none);
@@ -344,7 +345,7 @@ final class DayEdges {
     }
 
     private static void factsOnAWay() {
-        Report.sentence(23, "IN or OUT at its PLACE in TICK NOW (who is on a WAY is at neither end)");
+        Report.sentence(23, "IN or OUT at its PLACE in TICK NOW", "on a WAY one is at neither end");
         Run x = Run.line(2, 3, 0).restful().tells(0, 1, 5, 6, 100).does("begin");
         for (int now = 0; now <= 5; now++) {
             x.due(2 * now, "happen", 0).due(2 * now + 1, "happen", 1);

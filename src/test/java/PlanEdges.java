@@ -19,6 +19,8 @@ final class PlanEdges {
         inBeforeGoing();
         outBeforeGoing();
         lesserPlaceFirst();
+        whoStandsOut();
+        plannedNext();
         seatsTickByTick();
         othersPlansAsTheyAre();
         spansOfBends();
@@ -195,6 +197,52 @@ final class PlanEdges {
         far.where(0, 0, 3, 11).where(0, 3, 5, 200 + 12 * 11).where(0, 5, 7, 211).due(44 * 3 + 4 * 4, "cost", 0);
     }
 
+    private static void whoStandsOut() {
+        Report.sentence(17, "Who stands at a PLACE as a TICK comes (at HOME as the DAY begins) may be IN it, be OUT at it, or go");
+        for (int p = 0; p < 12; p++) {
+            Run x = new Run();
+            for (int q = 0; q < 12; q++) {
+                x.does("place", 1, 0, 10);
+            }
+            // OUT since 10: with a key one goes in, with a way one goes
+            x.folk(p).does("begin").does("tick", 20).where(0, 0, 10, p).where(0, 10, 48, 100 + p);
+            x.due(28 * 20, "again", 0).where(0, 20, 48, 100 + p).does("key", 0, p, true).due(28 * 4, "again", 0);
+            x.where(0, 0, 10, p).where(0, 10, 20, 100 + p).where(0, 20, 48, p);
+            x.does("key", 0, p, false).does("tick", 1).due(27 * 20, "again", 0);
+            x.due(p, "where", 0, 20).where(0, 21, 48, 100 + p);
+            int q = p == 11 ? 10 : 11;
+            Run y = Run.places(12, 1).does("way", p, q, 3).folk(p).restful().does("begin").does("lock", p, true);
+            y.where(0, 0, 3, 200 + 12 * p + q).where(0, 3, 44, q).where(0, 44, 47, 200 + 12 * q + p);
+            y.due(100 + p, "where", 0, 47).does("tick", 3).does("lock", q, true).due(13 * 9 + 6 * 20, "cost", 0);
+            // of 44 ticks, thirteen ways take 39, and a fourteenth would lead away from home: five are OUT, ahead of all
+            y.where(0, 3, 8, 100 + q).where(0, 8, 11, 200 + 12 * q + p).where(0, 11, 14, 200 + 12 * p + q);
+            y.does("tick", 1).due(13 * 9 + 5 * 20, "again", 0).where(0, 3, 8, 100 + q).where(0, 8, 11, 200 + 12 * q + p);
+        }
+    }
+
+    private static void plannedNext() {
+        Report.sentence(17, "(LIKES, KEYS and DUTIES that change count when one is planned next.)");
+        // by a bend, by a lock, by again, by a new day
+        for (int way = 0; way < 4; way++) {
+            Run x = Run.line(2, 1, 0).restful().does("begin").likes(0, 6, 9).tells(0, 1, 20, 24, 100);
+            x.where(0, 0, 48, 0).due(144, "cost", 0);
+            if (way == 0) {
+                x.due(2 * 3 + 3, "bend", 0, 1, 1, 2);
+            } else if (way == 1) {
+                x.due(1, "lock", 0, true);
+            } else if (way == 2) {
+                x.due(2 * 3 + 3, "again", 0);
+            } else {
+                x.does("tick", 48);
+            }
+            x.due(201, "where", 0, 0).where(0, 1, 46, 1).due(212, "where", 0, 46).due(way == 1 ? 100 : 0, "where", 0, 47);
+            x.due(way == 1 ? 2 * 3 + 20 : 2 * 3 + 3, "cost", 0);
+        }
+        // a key of a place that is closed now
+        Run key = new Run().does("place", 1, 10, 48).folk(0).does("begin").does("tick", 5).does("key", 0, 0, true);
+        key.where(0, 0, 10, 100).due(43 * 4, "bend", 0, 0, 5, 6).where(0, 0, 5, 100).where(0, 5, 48, 0);
+    }
+
     private static void seatsTickByTick() {
         Report.sentence(17, "and the others' plans leave a SEAT in that TICK (a plan takes a SEAT in each TICK in which one is IN)");
         Run x = Run.places(1, 9).does("place", 1, 0, 48).does("way", 0, 1, 1).folk(0, 0);
@@ -244,7 +292,7 @@ final class PlanEdges {
     }
 
     private static void restOfTheSpan() {
-        Report.sentence(19, "a claim for the rest of the DAY's span told, WEIGHT 200; the cost of the plan from NOW on");
+        Report.sentence(19, "a claim for the rest of the DAY's span told, WEIGHT 200", "the cost of the plan from NOW on");
         // place 1 can't be reached: each tick of the span from NOW on costs 200
         for (int now : new int[] {0, 1, 9, 10, 11, 19, 20, 21, 46, 47}) {
             Run x = Run.places(2, 9).folk(0).does("begin");

@@ -3,6 +3,8 @@ import java.util.Set;
 
 /** Which promise and which sentence of the document is tested just now, and what was not as due. */
 final class Report {
+    /** The edge of a call that could be refused for more than one reason. */
+    static final String ORDER = "the first that fits, in this order";
     private static final int PROMISES = 30;
     private static final int MOST_TOLD = 60;
     private static final Set<String> SENTENCES = new LinkedHashSet<>();
@@ -15,12 +17,17 @@ final class Report {
     private Report() {
     }
 
-    /** All that follows stands for this sentence, until the next one is named. */
+    /** All that follows stands for this sentence of the document, until the next one is named. */
     static void sentence(int number, String sentence) {
+        sentence(number, sentence, "");
+    }
+
+    /** The same, of one edge of the sentence. */
+    static void sentence(int number, String sentence, String edge) {
         promise = number;
-        words = sentence;
+        words = edge.isEmpty() ? sentence : sentence + " [" + edge + "]";
         NAMED[number] = true;
-        SENTENCES.add(number + ": " + sentence);
+        SENTENCES.add(number + ": " + words);
     }
 
     static void due(String call, long got, long want) {
@@ -50,9 +57,5 @@ final class Report {
         if (wrong != 0) {
             System.exit(1);
         }
-    }
-
-    static Set<String> sentences() {
-        return SENTENCES;
     }
 }

@@ -53,7 +53,7 @@ final class ShelfEdges {
     }
 
     private static void rowsRefusedInOrder() {
-        Report.sentence(6, "-1; -4; -6 SORT; -7 n above 60. (the first that fits, in this order)");
+        Report.sentence(6, "-1; -4; -6 SORT; -7 n above 60.", Report.ORDER);
         Run x = new Run();
         x.refused(-1, "row", 8, 4, -1).refused(-1, "row", -1, 0, 61).refused(-1, "row", 8, 9, 5);
         x.refused(-4, "row", 0, 4, -1).refused(-4, "row", 0, -1, LOWEST);
@@ -111,7 +111,7 @@ final class ShelfEdges {
     }
 
     private static void setRefusedInOrder() {
-        Report.sentence(7, "-1; -2; -3; -5. (the first that fits, in this order)");
+        Report.sentence(7, "-1; -2; -3; -5.", Report.ORDER);
         Run x = new Run().does("place", 1, 0, 48).folk(0).does("show", 0, 0).does("row", 2, 0, 2);
         for (int s : NO_SHELVES) {
             x.refused(-1, "set", s, 0, 1).refused(-1, "set", s, -1, 1);
@@ -191,8 +191,8 @@ final class ShelfEdges {
     }
 
     private static void copyRefusedInOrder() {
-        Report.sentence(8, "-1; -2 also of two SORTS (when both hold something); -3 either; -4 n; -5"
-            + " (the first that fits, in this order)");
+        Report.sentence(8, "-1; -2 also of two SORTS (when both hold something); -3 either; -4 n; -5",
+            Report.ORDER);
         Run x = new Run().does("place", 1, 0, 48).folk(0);
         // 0 and 1 hold rows of one sort, 2 one of another, 3 one of the folk, 4 nothing
         x.does("row", 0, 1, 2).does("row", 1, 1, 2).does("row", 2, 2, 2).does("show", 3, 0);

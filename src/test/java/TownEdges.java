@@ -85,7 +85,7 @@ final class TownEdges {
             x.due(p, "place", 1, 0, 48).due(p + 1, "status", 0).due(-1, "far", p, p + 1);
         }
         x.refused(-7, "place", 1, 0, 48).refused(-7, "place", 9, 47, 48);
-        Report.sentence(2, "-6 SEATS, hours, behind BEGIN; -7. (the first that fits, in this order)");
+        Report.sentence(2, "-6 SEATS, hours, behind BEGIN; -7.", Report.ORDER);
         x.refused(-6, "place", 0, 0, 48).refused(-6, "place", 10, 0, 48).refused(-6, "place", 1, 0, 49);
         x.does("begin");
         x.refused(-6, "place", 1, 0, 48);
@@ -147,7 +147,7 @@ final class TownEdges {
         x.due(29, "status", 1).due(99, "far", 0, 11);
         x.due(1, "way", 0, 11, 8).due(30, "status", 1).due(8, "far", 0, 11).due(8 + 9, "far", 0, 10);
         x.refused(-7, "way", 0, 11, 1).refused(-7, "way", 3, 9, 1);
-        Report.sentence(3, "-1; -6 a is b, TICKS, behind BEGIN; -7. (the first that fits, in this order)");
+        Report.sentence(3, "-1; -6 a is b, TICKS, behind BEGIN; -7.", Report.ORDER);
         x.refused(-6, "way", 4, 4, 1).refused(-6, "way", 0, 11, 0).refused(-6, "way", 0, 11, 10);
         x.refused(-1, "way", 12, 12, 0).refused(-1, "way", 0, 12, 1);
         x.does("begin");
@@ -201,7 +201,7 @@ final class TownEdges {
             x.due(f, "folk", f % 3).due(f + 1, "status", 2);
         }
         x.refused(-7, "folk", 0).refused(-7, "folk", 2);
-        Report.sentence(4, "-1 HOME; -6 behind BEGIN; -7. (the first that fits, in this order)");
+        Report.sentence(4, "-1 HOME; -6 behind BEGIN; -7.", Report.ORDER);
         x.refused(-1, "folk", 3).refused(-1, "folk", -1);
         x.due(20, "begin").due(1, "where", 19, 47).due(-1, "where", 20, 47).due(-1, "cost", 20);
         x.refused(-6, "folk", 0).refused(-1, "folk", 3);
@@ -253,8 +253,8 @@ final class TownEdges {
             x.due(m, "meeting", 3, 1, m, m + 1, 1).due(m + 1, "status", 4).due(0, "met", m, 0).due(-1, "met", m + 1, 0);
         }
         x.refused(-7, "meeting", 3, 1, 0, 1, 1).refused(-7, "meeting", 7, 0, 0, 48, 100);
-        Report.sentence(5, "-1 a bit of none, PLACE; -6 not two or more, span, WEIGHT not 1 to 100, behind BEGIN; -7."
-            + " (the first that fits, in this order)");
+        Report.sentence(5, "-1 a bit of none, PLACE; -6 not two or more, span, WEIGHT not 1 to 100, behind BEGIN; -7.",
+            Report.ORDER);
         x.refused(-6, "meeting", 1, 1, 0, 1, 1).refused(-6, "meeting", 3, 1, 0, 0, 1).refused(-6, "meeting", 3, 1, 0, 1, 0);
         x.refused(-1, "meeting", 8, 1, 0, 0, 0).refused(-1, "meeting", 3, 2, 0, 0, 0);
         x.does("begin");
@@ -296,7 +296,7 @@ final class TownEdges {
     }
 
     private static void allThatMayBeThere() {
-        Report.sentence(5, "12 at most; 30 at most; 20 at most; 10 at most (all of them at once)");
+        Report.sentence(5, "All these are told ahead of BEGIN.", "all that may be there at once");
         Run x = Run.places(12, 9);
         for (int w = 0; w < 30; w++) {
             x.does("way", w % 11, w < 11 ? 11 : (w % 11 + 1) % 11, 9);

@@ -35,7 +35,7 @@ final class WrittenEdges {
     // ---- promise 13
 
     private static void dutiesRefusedInOrder() {
-        Report.sentence(13, "-1 either; -2; -3; -6 a FAULT. (the first that fits, in this order)");
+        Report.sentence(13, "-1 either; -2; -3; -6 a FAULT.", Report.ORDER);
         Run x = Run.line(2, 1, 0, 0, 0).fill(0, 2, 0, 0, 1, 0).does("show", 1, 0).does("begin").does("gone", 2);
         for (int who : new int[] {-1, 2, 3, 20, LOWEST, HIGHEST}) {
             for (int s : new int[] {0, 1, 2, -1}) {
@@ -146,7 +146,7 @@ final class WrittenEdges {
     }
 
     private static void weightsOfDuties() {
-        Report.sentence(14, "4 WEIGHT (1 to 100)");
+        Report.sentence(14, "4 WEIGHT;");
         Run x = Run.line(2, 1, 0);
         for (int weight : new int[] {0, 101, -1, LOWEST, HIGHEST}) {
             fault(x, 4, 0, 0, 0, 1, weight);
@@ -175,8 +175,7 @@ final class WrittenEdges {
     }
 
     private static void waysBetweenNeighbours() {
-        Report.sentence(14, "6 the least TICKS of ways from its neighbour ahead in time, or to its neighbour behind,"
-            + " are more than there are between (or there is no way)");
+        Report.sentence(14, "are more than there are between (or there is no way)");
         for (int ticks = 1; ticks <= 9; ticks++) {
             Run x = Run.line(3, ticks, 0).does("place", 1, 0, 48);
             // ahead: its to is 10; one place on, then two
@@ -198,8 +197,8 @@ final class WrittenEdges {
     }
 
     private static void neighboursInTime() {
-        Report.sentence(14, "its neighbour ahead in time among the earlier ones of the ROW (that whose to is the greatest"
-            + " no more than its from), or its neighbour behind (that whose from is the least no less than its to)");
+        Report.sentence(14, "from its neighbour ahead in time among the earlier ones of the ROW (that whose to is the greatest"
+            + " no more than its from), or to its neighbour behind (that whose from is the least no less than its to)");
         Run x = Run.line(3, 2, 0);
         // place 0 in 4 and 5, place 2 from 20 on, told in either order: the third must fit between them
         long[][] pairs = {{0, 4, 6, 1, 2, 20, 22, 1}, {2, 20, 22, 1, 0, 4, 6, 1}};
@@ -284,7 +283,7 @@ final class WrittenEdges {
     // ---- promise 15
 
     private static void likesRefusedInOrder() {
-        Report.sentence(15, "-1 either; -2; -3; -6 one of these not 0 to 9 (the first that fits, in this order)");
+        Report.sentence(15, "-1 either; -2; -3; -6 one of these not 0 to 9", Report.ORDER);
         Run x = Run.line(2, 1, 0, 0, 0).fill(0, 2, 10, 0).does("show", 1, 0).does("begin").does("gone", 2);
         for (int who : new int[] {-1, 2, 3, 20, LOWEST, HIGHEST}) {
             for (int s : new int[] {0, 1, 2, -1}) {
