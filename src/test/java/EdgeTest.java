@@ -10,6 +10,6 @@ public final class EdgeTest {
         PlanEdges.all();
         DayEdges.all();
         AnswerEdges.all();
-        Report.end("EdgeTest");
+        Report.endOfSentences("EdgeTest");
     }
 }

@@ -466,9 +466,15 @@ public final class PromiseTest {
         due("fault(1)", x.fault(1), number);
     }
 
-    private static void fault() {
+    /** Places 0, 1, 2 in a line, two ticks apart, and 3 without a way. */
+    private static TownFolk lineAndOneAlone() {
         TownFolk x = line(3, 2, 0);
         x.place(1, 0, 48);
+        return x;
+    }
+
+    private static void fault() {
+        TownFolk x = lineAndOneAlone();
         dueFault(x, 0, -1);
         dueFault(x, 1, 0, 0);
         dueFault(x, 1, 0, 9, 9, 9, 9, 9);
@@ -491,6 +497,12 @@ public final class PromiseTest {
         dueFault(x, 5, 1, 0, 4, 6, 1, 0, 3, 9, 1);
         dueFault(x, 5, 2, 0, 4, 6, 1, 0, 6, 8, 1, 0, 5, 6, 1);
         dueFault(x, 0, -1, 0, 4, 6, 1, 0, 6, 8, 100, 0, 0, 4, 1);
+        faultsOfNeighbours();
+        faultOfTheLatestRow();
+    }
+
+    private static void faultsOfNeighbours() {
+        TownFolk x = lineAndOneAlone();
         dueFault(x, 6, 1, 0, 4, 6, 1, 1, 7, 8, 1);
         dueFault(x, 0, -1, 0, 4, 6, 1, 1, 8, 9, 1);
         dueFault(x, 6, 1, 0, 4, 6, 1, 1, 2, 3, 1);
@@ -504,6 +516,10 @@ public final class PromiseTest {
         dueFault(x, 0, -1, 2, 20, 22, 1, 0, 4, 6, 1, 1, 8, 18, 1);
         dueFault(x, 0, -1, 0, 2, 3, 1, 1, 5, 6, 1, 2, 8, 9, 1);
         dueFault(x, 0, -1, 2, 8, 9, 1, 1, 5, 6, 1, 0, 2, 3, 1);
+    }
+
+    private static void faultOfTheLatestRow() {
+        TownFolk x = lineAndOneAlone();
         dueFault(x, 2, 1, 0, 4, 6, 1, 9, 5, 4, 0, 9, 9, 9, 9);
         due("duties", x.duties(0, 5), -3);
         due("still the fault of the latest row", x.fault(0), 2);

@@ -9,8 +9,7 @@ final class Report {
     private static final int MOST_TOLD = 60;
     private static final Set<String> SENTENCES = new LinkedHashSet<>();
     private static final boolean[] NAMED = new boolean[PROMISES + 1];
-    private static int promise;
-    private static String words = "";
+    private static String about = "";
     private static int answers;
     private static int wrong;
 
@@ -24,10 +23,15 @@ final class Report {
 
     /** The same, of one edge of the sentence. */
     static void sentence(int number, String sentence, String edge) {
-        promise = number;
-        words = edge.isEmpty() ? sentence : sentence + " [" + edge + "]";
+        String words = edge.isEmpty() ? sentence : sentence + " [" + edge + "]";
+        about = "promise " + number + ", \"" + words + "\"";
         NAMED[number] = true;
-        SENTENCES.add(number + ": " + words);
+        SENTENCES.add(about);
+    }
+
+    /** All that follows is of this run, whichever promises it comes to. */
+    static void setting(String run) {
+        about = run;
     }
 
     static void due(String call, long got, long want) {
@@ -37,23 +41,36 @@ final class Report {
         }
     }
 
-    static void fault(String what) {
-        wrong++;
-        if (wrong <= MOST_TOLD) {
-            System.out.println("promise " + promise + ", \"" + words + "\": " + what);
+    /** Something that is asked of the class itself, not of an answer of it. */
+    static void holds(boolean fine, String fault) {
+        answers++;
+        if (!fine) {
+            fault(fault);
         }
     }
 
-    /** Ends the test with code 1 if an answer was not as due, or a promise has no sentence tested. */
-    static void end(String test) {
+    static void fault(String what) {
+        wrong++;
+        if (wrong <= MOST_TOLD) {
+            System.out.println(about + ": " + what);
+        }
+    }
+
+    /** Ends a test of sentences: each promise must have one. */
+    static void endOfSentences(String test) {
         for (int number = 1; number <= PROMISES; number++) {
             if (!NAMED[number]) {
                 wrong++;
                 System.out.println("promise " + number + " has no sentence that is tested");
             }
         }
-        System.out.println(test + ": " + SENTENCES.size() + " sentences, " + answers + " answers, "
-            + wrong + " of them not as due");
+        System.out.println(test + ": " + SENTENCES.size() + " sentences");
+        end(test);
+    }
+
+    /** Ends the test with code 1 if something was not as due. */
+    static void end(String test) {
+        System.out.println(test + ": " + answers + " answers, " + wrong + " of them not as due");
         if (wrong != 0) {
             System.exit(1);
         }

@@ -102,6 +102,11 @@ final class Run {
         }
     }
 
+    /** How many calls would be made again on a new object; the run ends ahead of MOST_KEPT. */
+    int kept() {
+        return kept.size();
+    }
+
     long answer(String name, Object... given) {
         return make(new Call(name, given));
     }
